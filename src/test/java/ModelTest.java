@@ -255,7 +255,7 @@ public final class ModelTest {
         int reports = drums == 0 ? 0 : random.nextInt(4);
         for (int i = 0; i < reports; i++) {
             text.append(";heard d").append((char) ('a' + random.nextInt(drums))).append(' ').append(7 * i + random.nextInt(7));
-            text.append(' ').append(random.nextInt(width + height));
+            text.append(' ').append(random.nextInt(Math.min(15, width + height)));
         }
         return text.toString();
     }
