@@ -102,6 +102,7 @@ public final class FieldTest {
         due.sound(WALL + ";dig abcdefgh miners 0 0 seewwnes;dig b miners 0 0 s;dig c garrison 0 0 s;"
                 + "dig d garrison 2 1 w;drum e 0 0;drum f 0 0;drum g 0 0;drum h 0 0;heard e 0 0;heard e 1 0;"
                 + "heard f 0 0;heard f 1 0;heard g 0 0;heard h 0 0", 4);
+        due.sound(WALL + ";drum z 0 0;drum az 0 0;drum za 0 0;heard z 9 9;heard az 9 9;heard za 9 9", 0);
         due.sound(WALL + ";drum abcdefgh 0 0;drum abcdefg 0 0;heard abcdefg 1 1;heard abcdefgh 1 1", 0);
     }
 

@@ -22,8 +22,13 @@ public final class ModelTest {
 
     private void play(int round) {
         String text = text(round % 3 == 0 ? 8 : 5);
-        mine = Due.of(text);
+        // Every other field is told to the object that had the one before.
+        if (round % 2 == 0) {
+            mine = new CounterMine();
+        }
+        Due.feed(mine, text);
         model = new Model(text);
+        due.is("field of " + text, mine.field(text.length()), model.galleries.size());
         List<Model> past = new ArrayList<>();
         List<Model> images = new ArrayList<>();
         for (int act = 0; act < 24; act++) {
@@ -206,7 +211,8 @@ public final class ModelTest {
         due.is("beAt of " + at, mine.beAt(cell[0], cell[1], n), model.beAt(cell, n));
         due.is("likely of " + at, mine.likely(n), model.likely(n));
         due.is("oneMore of " + at, mine.oneMore(n), model.oneMore(n)[0]);
-        due.is("oneMoreLeaves of " + at, mine.oneMoreLeaves(n), model.oneMore(n)[1]);
+        int other = random.nextInt(12);
+        due.is("oneMoreLeaves of " + at, mine.oneMoreLeaves(other), model.oneMore(other)[1]);
         for (int g = 0; g < model.galleries.size() && !fits.isEmpty(); g++) {
             int i = random.nextInt(fits.size());
             due.is("meets of " + at, mine.meets(g, i), model.meets(g, i));

@@ -22,58 +22,65 @@ public final class NewObjectTest {
     }
 
     private static void noneOfNow(Due due, CounterMine m) {
-        due.refused(m, "cell", m.cell(0, 0, 0), -1, 1);
-        due.refused(m, "gallery", m.gallery(0, 0), -1, 1);
-        due.refused(m, "drum", m.drum(0), -1, 1);
-        due.refused(m, "dug", m.dug(), -1, 1);
-        due.refused(m, "far", m.far(0, 0, 0, 0), -1, 1);
+        due.refused(m, "cell", fresh(m).cell(0, 0, 0), -1, 1);
+        due.refused(m, "gallery", fresh(m).gallery(0, 0), -1, 1);
+        due.refused(m, "drum", fresh(m).drum(0), -1, 1);
+        due.refused(m, "dug", fresh(m).dug(), -1, 1);
+        due.refused(m, "far", fresh(m).far(0, 0, 0, 0), -1, 1);
     }
 
     private static void noneOfNights(Due due, CounterMine m) {
-        due.refused(m, "placeIn", m.placeIn(0, 61), -1, 1);
-        due.refused(m, "dugIn", m.dugIn(61), -1, 1);
-        due.refused(m, "endsIn", m.endsIn(0), -1, 1);
-        due.refused(m, "breaksIn", m.breaksIn(0, 1), -1, 1);
-        due.refused(m, "firstBreak", m.firstBreak(), -1, 1);
-        due.refused(m, "whoBreaks", m.whoBreaks(), -1, 1);
-        due.refused(m, "hears", m.hears(0, 61), -1, 1);
-        due.refused(m, "heardIn", m.heardIn(0), -1, 1);
+        due.refused(m, "placeIn", fresh(m).placeIn(0, 61), -1, 1);
+        due.refused(m, "dugIn", fresh(m).dugIn(61), -1, 1);
+        due.refused(m, "endsIn", fresh(m).endsIn(0), -1, 1);
+        due.refused(m, "breaksIn", fresh(m).breaksIn(0, 1), -1, 1);
+        due.refused(m, "firstBreak", fresh(m).firstBreak(), -1, 1);
+        due.refused(m, "whoBreaks", fresh(m).whoBreaks(), -1, 1);
+        due.refused(m, "hears", fresh(m).hears(0, 61), -1, 1);
+        due.refused(m, "heardIn", fresh(m).heardIn(0), -1, 1);
     }
 
     private static void noneOfWays(Due due, CounterMine m) {
-        due.refused(m, "nights", m.nights(0, 0, 0, 0), -1, 1);
-        due.refused(m, "quiet", m.quiet(0, 0, 0, 0), -1, 1);
-        due.refused(m, "toWall", m.toWall(0), -1, 1);
-        due.refused(m, "within", m.within(0, 0, 100), -1, 1);
-        due.refused(m, "deaf", m.deaf(), -1, 1);
-        due.refused(m, "cut", m.cut(0), -1, 1);
-        due.refused(m, "blast", m.blast(0, 0, 3), -1, 1);
-        due.refused(m, "bestBlast", m.bestBlast(3), -1, 1);
+        due.refused(m, "nights", fresh(m).nights(0, 0, 0, 0), -1, 1);
+        due.refused(m, "quiet", fresh(m).quiet(0, 0, 0, 0), -1, 1);
+        due.refused(m, "toWall", fresh(m).toWall(0), -1, 1);
+        due.refused(m, "within", fresh(m).within(0, 0, 100), -1, 1);
+        due.refused(m, "deaf", fresh(m).deaf(), -1, 1);
+        due.refused(m, "cut", fresh(m).cut(0), -1, 1);
+        due.refused(m, "blast", fresh(m).blast(0, 0, 3), -1, 1);
+        due.refused(m, "bestBlast", fresh(m).bestBlast(3), -1, 1);
     }
 
     private static void noneOfSecret(Due due, CounterMine m) {
-        due.refused(m, "fits", m.fits(), -1, 1);
-        due.refused(m, "fitAt", m.fitAt(0), -1, 1);
-        due.refused(m, "fitWay", m.fitWay(0), -1, 1);
-        due.refused(m, "beAt", m.beAt(0, 0, 61), -1, 1);
-        due.refused(m, "likely", m.likely(61), -1, 1);
-        due.refused(m, "oneMore", m.oneMore(61), -1, 1);
-        due.refused(m, "oneMoreLeaves", m.oneMoreLeaves(61), -1, 1);
-        due.refused(m, "meets", m.meets(0, 0), -1, 1);
+        due.refused(m, "fits", fresh(m).fits(), -1, 1);
+        due.refused(m, "fitAt", fresh(m).fitAt(0), -1, 1);
+        due.refused(m, "fitWay", fresh(m).fitWay(0), -1, 1);
+        due.refused(m, "beAt", fresh(m).beAt(0, 0, 61), -1, 1);
+        due.refused(m, "likely", fresh(m).likely(61), -1, 1);
+        due.refused(m, "oneMore", fresh(m).oneMore(61), -1, 1);
+        due.refused(m, "oneMoreLeaves", fresh(m).oneMoreLeaves(61), -1, 1);
+        due.refused(m, "meets", fresh(m).meets(0, 0), -1, 1);
     }
 
     private static void noneOfTheRest(Due due, CounterMine m) {
-        due.refused(m, "digs", m.digs(10, true, true, true), -100, 1);
-        due.refused(m, "rests", m.rests(10), -1, 1);
-        due.refused(m, "rest", m.rest(10), -1, 1);
-        due.refused(m, "odds", m.odds(0, true), -1, 1);
-        due.refused(m, "mean", m.mean(true), -1, 1);
-        due.refused(m, "drawn", m.drawn(-1), -1, 1);
-        due.refused(m, "night", m.night(), -1, 1);
-        due.refused(m, "charge", m.charge(0, 0, 3), -1, 1);
-        due.refused(m, "move", m.move(0, 0, 0), -1, 1);
+        due.refused(m, "digs", fresh(m).digs(10, true, true, true), -100, 1);
+        due.refused(m, "rests", fresh(m).rests(10), -1, 1);
+        due.refused(m, "rest", fresh(m).rest(10), -1, 1);
+        due.refused(m, "odds", fresh(m).odds(0, true), -1, 1);
+        due.refused(m, "mean", fresh(m).mean(true), -1, 1);
+        due.refused(m, "drawn", fresh(m).drawn(-1), -1, 1);
+        due.refused(m, "night", fresh(m).night(), -1, 1);
+        due.refused(m, "charge", fresh(m).charge(0, 0, 3), -1, 1);
+        due.refused(m, "move", fresh(m).move(0, 0, 0), -1, 1);
+        m.dug();
         due.refused(m, "undo", m.undo() ? 1 : 0, 0, 6);
-        due.refused(m, "image", m.image(), -1, 1);
-        due.refused(m, "back", m.back(0) ? 1 : 0, 0, 1);
+        due.refused(m, "image", fresh(m).image(), -1, 1);
+        due.refused(m, "back", fresh(m).back(0) ? 1 : 0, 0, 1);
+    }
+
+    /** With a trouble that no call but undo() leaves, so that a call that leaves none is seen. */
+    private static CounterMine fresh(CounterMine m) {
+        m.undo();
+        return m;
     }
 }

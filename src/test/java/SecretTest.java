@@ -12,6 +12,7 @@ public final class SecretTest {
         noFits(due);
         oneMoreDrum(due);
         meetings(due);
+        lastNight(due);
         wrongNumbers(due);
         due.end();
     }
@@ -131,6 +132,21 @@ public final class SecretTest {
         due.taken(apart, "no way", apart.meets(0, 0), -2);
         due.taken(apart, "one night to dig", apart.meets(1, 0), 1);
         due.taken(apart, "it comes itself", apart.meets(1, 3), 1);
+    }
+
+    /** One long way of gravel: a pick that stays is met by the 60th night, or not at all. */
+    private static void lastNight(Due due) {
+        CounterMine m = Due.of("field reach 1 error 0 pace 1 falls 0;row gggggggg;row rrrrrrrg;row gggggggg;row grrrrrrr;"
+                + "row gggggggg;wall 0 0;dig a miners 0 0 e");
+        for (int i = 0; i < m.fits(); i++) {
+            if (m.fitWay(i) == 0 && m.fitAt(i) == 42) {
+                due.taken(m, "60 nights", m.meets(0, i), 60);
+            }
+            if (m.fitWay(i) == 0 && m.fitAt(i) == 43) {
+                due.taken(m, "63 nights", m.meets(0, i), -2);
+            }
+        }
+        due.taken(m, "60 nights", m.nights(0, 0, 2, 4), 60);
     }
 
     private static void wrongNumbers(Due due) {

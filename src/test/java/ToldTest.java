@@ -1,3 +1,5 @@
+import java.util.function.LongSupplier;
+
 /** Promises 47 to 49: galleries led to their ends, sizes and trouble. */
 public final class ToldTest {
     private static final String TEXT = "field reach 4 error 2 pace 3 falls 17;row sscss;row sgrss;row sssss;wall 3 0;"
@@ -9,6 +11,7 @@ public final class ToldTest {
         ledOnes(due);
         sizes(due);
         troubles(due);
+        notRefused(due);
         due.end();
     }
 
@@ -61,6 +64,33 @@ public final class ToldTest {
         due.is("size(-1)", m.size(-1), -1);
         due.is("size(MIN)", m.size(Integer.MIN_VALUE), -1);
         due.is("size() is no call that may be refused", m.trouble(), 3);
+    }
+
+    /** Each call that may be refused, and isn't: TROUBLE is 0 behind it, whatever it was. */
+    private static void notRefused(Due due) {
+        CounterMine m = Due.of(TEXT);
+        LongSupplier[] calls = {
+            () -> m.cell(0, 0, 0), () -> m.gallery(0, 0), () -> m.drum(0), () -> m.dug(), () -> m.far(0, 0, 1, 1),
+            () -> m.placeIn(0, 1), () -> m.dugIn(1), () -> m.endsIn(0), () -> m.breaksIn(0, 1), () -> m.firstBreak(),
+            () -> m.whoBreaks(), () -> m.hears(0, 0), () -> m.heardIn(0), () -> m.nights(0, 0, 2, 1),
+            () -> m.quiet(0, 0, 1, 1), () -> m.toWall(0), () -> m.within(0, 0, 0), () -> m.deaf(), () -> m.cut(0),
+            () -> m.blast(0, 0, 0), () -> m.bestBlast(0), () -> m.fits(), () -> m.fitAt(0), () -> m.fitWay(0),
+            () -> m.beAt(0, 0, 0), () -> m.likely(0), () -> m.oneMore(0), () -> m.oneMoreLeaves(0), () -> m.meets(0, 0),
+            () -> m.digs(0, true, true, true), () -> m.rests(0), () -> m.rest(0), () -> m.odds(0, true),
+            () -> m.mean(true), () -> m.drawn(0), () -> m.night(), () -> m.charge(0, 0, 0), () -> m.move(0, 1, 0),
+            () -> m.undo() ? 1 : 0, () -> m.image(), () -> m.back(0) ? 1 : 0, () -> tell(m),
+        };
+        for (int i = 0; i < calls.length; i++) {
+            m.drum(-1);
+            due.is("trouble() ahead of call " + i, m.trouble(), 1);
+            calls[i].getAsLong();
+            due.is("trouble() behind call " + i, m.trouble(), 0);
+        }
+    }
+
+    private static long tell(CounterMine m) {
+        Due.feed(m, TEXT);
+        return m.field(TEXT.length());
     }
 
     private static void troubles(Due due) {
