@@ -77,7 +77,8 @@ public final class CounterMine {
         now.begin(plan);
         past.clear();
         secret.gather(plan);
-        return answer(plan.galleries);
+        trouble = 0;
+        return plan.galleries;
     }
 
     public int fault() {
@@ -91,202 +92,184 @@ public final class CounterMine {
     // ---- now
 
     public int cell(int x, int y, int what) {
-        if (!plan.holds(x, y) || what < 0 || what > 4) {
-            return refuse(NONE_SUCH);
+        if (!allowed(plan.holds(x, y) && what >= 0 && what <= 4)) {
+            return NONE;
         }
         int cell = Board.at(x, y);
         switch (what) {
             case 0:
-                return answer(plan.soilAt(cell));
+                return plan.soilAt(cell);
             case 1:
-                return answer(plan.isSoil(cell) ? now.toDig(plan, cell) : NOTHING);
+                return plan.isSoil(cell) ? now.toDig(plan, cell) : NOTHING;
             case 2:
-                return answer(Board.has(now.dug, cell) ? 1 : 0);
+                return Board.has(now.dug, cell) ? 1 : 0;
             case 3:
-                return answer(Board.has(now.broken, cell) ? 1 : 0);
+                return Board.has(now.broken, cell) ? 1 : 0;
             default:
-                return answer(now.galleriesNear(plan, cell, 0));
+                return now.galleriesNear(plan, cell, 0);
         }
     }
 
     public int gallery(int g, int what) {
-        if (!isGallery(g) || what < 0 || what > 5) {
-            return refuse(NONE_SUCH);
+        if (!allowed(isGallery(g) && what >= 0 && what <= 5)) {
+            return NONE;
         }
         switch (what) {
             case 0:
-                return answer(plan.side[g]);
+                return plan.side[g];
             case 1:
-                return answer(Board.whole(now.placeOf(plan, g)));
+                return Board.whole(now.placeOf(plan, g));
             case 2:
-                return answer(now.come[g]);
+                return now.come[g];
             case 3:
-                return answer(now.left[g]);
+                return now.left[g];
             case 4:
-                return answer((now.shut >> g) & 1);
+                return now.shut >> g & 1;
             default:
-                return answer(plan.length[g]);
+                return plan.length[g];
         }
     }
 
     public int drum(int d) {
-        if (!isDrum(d)) {
-            return refuse(NONE_SUCH);
+        if (!allowed(isDrum(d))) {
+            return NONE;
         }
-        return answer(Board.whole(now.drumAt[d]));
+        return Board.whole(now.drumAt[d]);
     }
 
     public int dug() {
-        if (!told) {
-            return refuse(NONE_SUCH);
+        if (!allowed(told)) {
+            return NONE;
         }
-        return answer(Long.bitCount(now.dug));
+        return Long.bitCount(now.dug);
     }
 
     public int far(int x, int y, int toX, int toY) {
-        if (!plan.holds(x, y) || !plan.holds(toX, toY)) {
-            return refuse(NONE_SUCH);
+        if (!allowed(plan.holds(x, y) && plan.holds(toX, toY))) {
+            return NONE;
         }
-        return answer(Board.apart(Board.at(x, y), Board.at(toX, toY)));
+        return Board.apart(Board.at(x, y), Board.at(toX, toY));
     }
 
     // ---- nights to come
 
     public int placeIn(int g, int n) {
-        if (!isGallery(g)) {
-            return refuse(NONE_SUCH);
-        }
-        if (!isNight(n)) {
-            return refuse(NUMBER);
+        if (!allowed(isGallery(g), isNight(n))) {
+            return NONE;
         }
         lookAhead(n);
-        return answer(Board.whole(then.placeOf(plan, g)));
+        return Board.whole(then.placeOf(plan, g));
     }
 
     public int dugIn(int n) {
-        if (!told) {
-            return refuse(NONE_SUCH);
-        }
-        if (!isNight(n)) {
-            return refuse(NUMBER);
+        if (!allowed(told, isNight(n))) {
+            return NONE;
         }
         lookAhead(n);
-        return answer(Long.bitCount(then.dug));
+        return Long.bitCount(then.dug);
     }
 
     public int endsIn(int g) {
-        if (!isGallery(g)) {
-            return refuse(NONE_SUCH);
+        if (!allowed(isGallery(g))) {
+            return NONE;
         }
-        return answer(firstNight(ENDED, g, g));
+        return firstNight(ENDED, g, g);
     }
 
     public int breaksIn(int g, int other) {
-        if (!isGallery(g) || !isGallery(other) || plan.side[g] == plan.side[other]) {
-            return refuse(NONE_SUCH);
+        if (!allowed(isGallery(g) && isGallery(other) && plan.side[g] != plan.side[other])) {
+            return NONE;
         }
-        return answer(firstNight(PAIR_BROKE, g, other));
+        return firstNight(PAIR_BROKE, g, other);
     }
 
     public int firstBreak() {
-        if (!told) {
-            return refuse(NONE_SUCH);
+        if (!allowed(told)) {
+            return NONE;
         }
-        return answer(firstNight(ANY_BROKE, 0, 0));
+        return firstNight(ANY_BROKE, 0, 0);
     }
 
     public int whoBreaks() {
-        if (!told) {
-            return refuse(NONE_SUCH);
+        if (!allowed(told)) {
+            return NONE;
         }
-        return answer(firstNight(ANY_BROKE, 0, 0) < 0 ? NOTHING : then.firstPair(plan));
+        return firstNight(ANY_BROKE, 0, 0) < 0 ? NOTHING : then.firstPair(plan);
     }
 
     public int hears(int d, int n) {
-        if (!isDrum(d)) {
-            return refuse(NONE_SUCH);
-        }
-        if (!isNight(n)) {
-            return refuse(NUMBER);
+        if (!allowed(isDrum(d), isNight(n))) {
+            return NONE;
         }
         lookAhead(n);
-        return answer(then.nearestPick(plan, d));
+        return then.nearestPick(plan, d);
     }
 
     public int heardIn(int g) {
-        if (!isGallery(g)) {
-            return refuse(NONE_SUCH);
+        if (!allowed(isGallery(g))) {
+            return NONE;
         }
-        return answer(firstNight(WAS_HEARD, g, g));
+        return firstNight(WAS_HEARD, g, g);
     }
 
     // ---- ways
 
     public int nights(int x, int y, int toX, int toY) {
-        if (!plan.holds(x, y) || !plan.holds(toX, toY)) {
-            return refuse(NONE_SUCH);
+        if (!allowed(plan.holds(x, y) && plan.holds(toX, toY))) {
+            return NONE;
         }
         ways.spread(plan, now, Board.at(x, y), plan.soilCells);
-        return answer(ways.leastTo(Board.at(toX, toY)));
+        return ways.leastTo(Board.at(toX, toY));
     }
 
     public int quiet(int x, int y, int toX, int toY) {
-        if (!plan.holds(x, y) || !plan.holds(toX, toY)) {
-            return refuse(NONE_SUCH);
+        if (!allowed(plan.holds(x, y) && plan.holds(toX, toY))) {
+            return NONE;
         }
         ways.spread(plan, now, Board.at(x, y), now.unheard(plan));
-        return answer(ways.leastTo(Board.at(toX, toY)));
+        return ways.leastTo(Board.at(toX, toY));
     }
 
     public int toWall(int g) {
-        if (!isGallery(g)) {
-            return refuse(NONE_SUCH);
+        if (!allowed(isGallery(g))) {
+            return NONE;
         }
         ways.spread(plan, now, now.placeOf(plan, g), plan.soilCells);
-        return answer(ways.leastTo(plan.wall));
+        return ways.leastTo(plan.wall);
     }
 
     public int within(int x, int y, int n) {
-        if (!plan.holds(x, y)) {
-            return refuse(NONE_SUCH);
-        }
-        if (n < 0 || n > MOST_WITHIN) {
-            return refuse(NUMBER);
+        if (!allowed(plan.holds(x, y), n >= 0 && n <= MOST_WITHIN)) {
+            return NONE;
         }
         ways.spread(plan, now, Board.at(x, y), plan.soilCells);
-        return answer(ways.countWithin(n));
+        return ways.countWithin(n);
     }
 
     public int deaf() {
-        if (!told) {
-            return refuse(NONE_SUCH);
+        if (!allowed(told)) {
+            return NONE;
         }
-        return answer(Long.bitCount(now.unheard(plan)));
+        return Long.bitCount(now.unheard(plan));
     }
 
     public int cut(int g) {
-        if (!isGallery(g)) {
-            return refuse(NONE_SUCH);
+        if (!allowed(isGallery(g))) {
+            return NONE;
         }
-        return answer(cutter.fewest(plan, now.placeOf(plan, g), plan.wall));
+        return cutter.fewest(plan, now.placeOf(plan, g), plan.wall);
     }
 
     public int blast(int x, int y, int r) {
-        if (!isSoil(x, y)) {
-            return refuse(NONE_SUCH);
+        if (!allowed(isSoil(x, y), isPower(r))) {
+            return NONE;
         }
-        if (!isPower(r)) {
-            return refuse(NUMBER);
-        }
-        return answer(now.openNear(plan, Board.at(x, y), r));
+        return now.openNear(plan, Board.at(x, y), r);
     }
 
     public int bestBlast(int r) {
-        if (!told) {
-            return refuse(NONE_SUCH);
-        }
-        if (!isPower(r)) {
-            return refuse(NUMBER);
+        if (!allowed(told, isPower(r))) {
+            return NONE;
         }
         int best = NONE;
         int most = 0;
@@ -299,119 +282,99 @@ public final class CounterMine {
                 }
             }
         }
-        return answer(Board.whole(best));
+        return Board.whole(best);
     }
 
     // ---- the secret pick
 
     public int fits() {
-        if (!told) {
-            return refuse(NONE_SUCH);
+        if (!allowed(told)) {
+            return NONE;
         }
-        return answer(secret.count);
+        return secret.count;
     }
 
     public int fitAt(int i) {
-        if (!isFit(i)) {
-            return refuse(NONE_SUCH);
+        if (!allowed(isFit(i))) {
+            return NONE;
         }
-        return answer(Board.whole(secret.cell[i]));
+        return Board.whole(secret.cell[i]);
     }
 
     public int fitWay(int i) {
-        if (!isFit(i)) {
-            return refuse(NONE_SUCH);
+        if (!allowed(isFit(i))) {
+            return NONE;
         }
-        return answer(secret.way[i]);
+        return secret.way[i];
     }
 
     public int beAt(int x, int y, int n) {
-        if (!plan.holds(x, y)) {
-            return refuse(NONE_SUCH);
-        }
-        if (!isNight(n)) {
-            return refuse(NUMBER);
+        if (!allowed(plan.holds(x, y), isNight(n))) {
+            return NONE;
         }
         secret.tally(plan, n);
-        return answer(secret.inCell(Board.at(x, y)));
+        return secret.inCell(Board.at(x, y));
     }
 
     public int likely(int n) {
-        if (!told) {
-            return refuse(NONE_SUCH);
-        }
-        if (!isNight(n)) {
-            return refuse(NUMBER);
+        if (!allowed(told, isNight(n))) {
+            return NONE;
         }
         if (secret.count == 0) {
-            return answer(NOTHING);
+            return NOTHING;
         }
         secret.tally(plan, n);
-        return answer(Board.whole(secret.fullest()));
+        return Board.whole(secret.fullest());
     }
 
     public int oneMore(int n) {
-        if (!told) {
-            return refuse(NONE_SUCH);
-        }
-        if (!isNight(n)) {
-            return refuse(NUMBER);
+        if (!allowed(told, isNight(n))) {
+            return NONE;
         }
         if (secret.count == 0) {
-            return answer(NOTHING);
+            return NOTHING;
         }
         secret.tally(plan, n);
-        return answer(Board.whole(secret.bestDrum(plan)));
+        return Board.whole(secret.bestDrum(plan));
     }
 
     public int oneMoreLeaves(int n) {
-        if (!told) {
-            return refuse(NONE_SUCH);
-        }
-        if (!isNight(n)) {
-            return refuse(NUMBER);
+        if (!allowed(told, isNight(n))) {
+            return NONE;
         }
         if (secret.count == 0) {
-            return answer(NOTHING);
+            return NOTHING;
         }
         secret.tally(plan, n);
-        return answer(secret.leaves(secret.bestDrum(plan)));
+        return secret.leaves(secret.bestDrum(plan));
     }
 
     public int meets(int g, int i) {
-        if (!isGallery(g) || !isFit(i)) {
-            return refuse(NONE_SUCH);
+        if (!allowed(isGallery(g) && isFit(i))) {
+            return NONE;
         }
         ways.spread(plan, now, now.placeOf(plan, g), plan.soilCells);
         for (int n = 0; n <= LAST_NIGHT; n++) {
             int least = ways.leastTo(secret.placeOn(plan, i, n));
             if (least >= 0 && least <= n) {
-                return answer(n);
+                return n;
             }
         }
-        return answer(NOTHING);
+        return NOTHING;
     }
 
     // ---- miners and garrison
 
     public int digs(int powder, boolean miners, boolean garrison, boolean ofGarrison) {
-        if (!told) {
-            refuse(NONE_SUCH);
+        if (!allowed(told, isPowder(powder))) {
             return NO_GAIN;
         }
-        if (!isPowder(powder)) {
-            refuse(NUMBER);
-            return NO_GAIN;
-        }
-        return answer(ofGarrison ? gain(powder, garrison, miners) : gain(powder, miners, garrison));
+        return ofGarrison ? gain(powder, garrison, miners) : gain(powder, miners, garrison);
     }
 
     public int rests(int powder) {
-        if (!told) {
-            return refuse(NONE_SUCH);
-        }
-        if (!isPowder(powder)) {
-            return refuse(NUMBER);
+        if (!allowed(told, isPowder(powder))) {
+            return NONE;
         }
         int count = 0;
         for (int pair = 0; pair < 4; pair++) {
@@ -419,50 +382,42 @@ public final class CounterMine {
                 count++;
             }
         }
-        return answer(count);
+        return count;
     }
 
     public int rest(int powder) {
-        if (!told) {
-            return refuse(NONE_SUCH);
-        }
-        if (!isPowder(powder)) {
-            return refuse(NUMBER);
+        if (!allowed(told, isPowder(powder))) {
+            return NONE;
         }
         for (int pair = 0; pair < 4; pair++) {
             if (isRest(powder, pair >= 2, pair % 2 == 1)) {
-                return answer(pair / 2 * 10 + pair % 2);
+                return pair / 2 * 10 + pair % 2;
             }
         }
-        return answer(NOTHING);
+        return NOTHING;
     }
 
     // ---- falls
 
     public long odds(int g, boolean lower) {
-        if (!isGallery(g)) {
-            return refuse(NONE_SUCH);
+        if (!allowed(isGallery(g))) {
+            return NONE;
         }
-        trouble = 0;
         share.ofOne(plan.falls, now.come[g] + 1);
         return lower ? share.lower : share.upper;
     }
 
     public long mean(boolean lower) {
-        if (!told) {
-            return refuse(NONE_SUCH);
+        if (!allowed(told)) {
+            return NONE;
         }
-        trouble = 0;
         share.ofAll(plan, now);
         return lower ? share.lower : share.upper;
     }
 
     public int drawn(int seed) {
-        if (!told) {
-            return refuse(NONE_SUCH);
-        }
-        if (seed < 0 || seed >= SEEDS) {
-            return refuse(NUMBER);
+        if (!allowed(told, seed >= 0 && seed < SEEDS)) {
+            return NONE;
         }
         int draw = seed;
         int stand = 0;
@@ -474,36 +429,33 @@ public final class CounterMine {
             }
             stand |= falls ? 0 : 1 << g;
         }
-        return answer(stand);
+        return stand;
     }
 
     // ---- acts
 
     public int night() {
-        if (!told) {
-            return refuse(NONE_SUCH);
+        if (!allowed(told)) {
+            return NONE;
         }
         if (now.nights >= MOST_NIGHTS) {
             return refuse(NO_ROOM);
         }
         past.keep(now);
-        return answer(now.passNight(plan));
+        return now.passNight(plan);
     }
 
     public int charge(int x, int y, int r) {
-        if (!isSoil(x, y)) {
-            return refuse(NONE_SUCH);
-        }
-        if (!isPower(r)) {
-            return refuse(NUMBER);
+        if (!allowed(isSoil(x, y), isPower(r))) {
+            return NONE;
         }
         past.keep(now);
-        return answer(now.explode(plan, Board.at(x, y), r));
+        return now.explode(plan, Board.at(x, y), r);
     }
 
     public int move(int d, int x, int y) {
-        if (!isDrum(d) || !isSoil(x, y)) {
-            return refuse(NONE_SUCH);
+        if (!allowed(isDrum(d) && isSoil(x, y))) {
+            return NONE;
         }
         int from = now.drumAt[d];
         if (from == Board.at(x, y)) {
@@ -511,33 +463,25 @@ public final class CounterMine {
         }
         past.keep(now);
         now.drumAt[d] = Board.at(x, y);
-        return answer(Board.whole(from));
+        return Board.whole(from);
     }
 
     public boolean undo() {
-        if (!past.takeBack(now)) {
-            refuse(THERE_IS_NONE);
-            return false;
-        }
-        trouble = 0;
-        return true;
+        boolean done = past.takeBack(now);
+        trouble = done ? 0 : THERE_IS_NONE;
+        return done;
     }
 
     public int image() {
-        if (!told) {
-            return refuse(NONE_SUCH);
+        if (!allowed(told)) {
+            return NONE;
         }
         int number = past.keepImage(now);
-        return number == NONE ? refuse(NO_ROOM) : answer(number);
+        return number == NONE ? refuse(NO_ROOM) : number;
     }
 
     public boolean back(int image) {
-        if (!past.goTo(image, now)) {
-            refuse(NONE_SUCH);
-            return false;
-        }
-        trouble = 0;
-        return true;
+        return allowed(past.goTo(image, now));
     }
 
     // ---- what is told
@@ -599,9 +543,19 @@ public final class CounterMine {
         return NONE;
     }
 
-    private int answer(int value) {
+    private boolean allowed(boolean there) {
+        return allowed(there, true);
+    }
+
+    /** That there is none such counts ahead of a wrong number. */
+    private boolean allowed(boolean there, boolean number) {
         trouble = 0;
-        return value;
+        if (!there) {
+            trouble = NONE_SUCH;
+        } else if (!number) {
+            trouble = NUMBER;
+        }
+        return trouble == 0;
     }
 
     private boolean isGallery(int g) {

@@ -33,11 +33,10 @@ public final class CutTest {
                 row[x] = random.nextDouble() < rock ? 'r' : 's';
             }
         }
-        // Two cells of soil side by side are the wall and where it can be dug from: galleries begin next to some soil.
-        soil[0][0] = 's';
         int wallX = random.nextInt(side);
         int wallY = random.nextInt(side);
         soil[wallY][wallX] = 's';
+        // A WAY leads into no rock, so soil lies where a gallery begins and east of that.
         int[][] from = new int[4][];
         for (int g = 0; g < 4; g++) {
             from[g] = new int[] {random.nextInt(side - 1), random.nextInt(side)};
