@@ -18,7 +18,56 @@ public final class NewObjectTest {
         noneOfWays(due, m);
         noneOfSecret(due, m);
         noneOfTheRest(due, m);
+        numbersWithoutField(due);
+        behindAFault(due);
         due.end();
+    }
+
+    /** Without a FIELD there is none such, whether a number that goes with it is right or wrong. */
+    private static void numbersWithoutField(Due due) {
+        Bound b = new Bound(due, new CounterMine());
+        CounterMine m = b.mine;
+        int[] all = {Integer.MIN_VALUE, -1, 0, 1, 2, 3, 9, 10, 60, 61, 99, 100, 65536, 65537, Integer.MAX_VALUE};
+        for (int n : all) {
+            b.refused("placeIn", () -> m.placeIn(0, n), 1);
+            b.refused("dugIn", () -> m.dugIn(n), 1);
+            b.refused("hears", () -> m.hears(0, n), 1);
+            b.refused("within", () -> m.within(0, 0, n), 1);
+            b.refused("blast", () -> m.blast(0, 0, n), 1);
+            b.refused("bestBlast", () -> m.bestBlast(n), 1);
+            b.refused("beAt", () -> m.beAt(0, 0, n), 1);
+            b.refused("likely", () -> m.likely(n), 1);
+            b.refused("oneMore", () -> m.oneMore(n), 1);
+            b.refused("oneMoreLeaves", () -> m.oneMoreLeaves(n), 1);
+            b.refused("digs", () -> m.digs(n, false, true, false), -100, 1);
+            b.refused("rests", () -> m.rests(n), 1);
+            b.refused("rest", () -> m.rest(n), 1);
+            b.refused("drawn", () -> m.drawn(n), 1);
+            b.refused("charge", () -> m.charge(0, 0, n), 1);
+            b.refused("cell", () -> m.cell(n, n, 0), 1);
+            b.refused("gallery", () -> m.gallery(n, 0), 1);
+            b.refused("move", () -> m.move(n, 0, 0), 1);
+            b.refused("back", () -> m.back(n) ? 1 : 0, 0, 1);
+            b.refused("odds", () -> m.odds(n, true), 1);
+        }
+        b.refused("undo", () -> m.undo() ? 1 : 0, 0, 6);
+        b.refused("night", () -> m.night(), 1);
+        b.refused("image", () -> m.image(), 1);
+        b.refused("mean", () -> m.mean(false), 1);
+    }
+
+    /** A text with a FAULT makes no FIELD, though most of it was sound. */
+    private static void behindAFault(Due due) {
+        CounterMine m = new CounterMine();
+        String text = "field reach 2 error 0 pace 1 falls 10;row sscs;row sgrs;wall 3 0;drum d 0 0;dig a miners 0 1 e;drum d";
+        Due.feed(m, text);
+        due.refused(m, "field", m.field(text.length()), -1, 4);
+        due.is("fault", m.fault(), 3);
+        noneOfNow(due, m);
+        noneOfNights(due, m);
+        noneOfWays(due, m);
+        noneOfSecret(due, m);
+        noneOfTheRest(due, m);
     }
 
     private static void noneOfNow(Due due, CounterMine m) {
