@@ -9,6 +9,7 @@ public final class ActBoundsTest {
     public static void main(String[] args) {
         Due due = new Due("ActBoundsTest");
         nineHundredNinetyNine(due);
+        allFourAsBits(due);
         charges(due);
         chargesAtBounds(due);
         moves(due);
@@ -48,6 +49,29 @@ public final class ActBoundsTest {
         due.is("size(9)", m.size(9), 998);
         b.done("the 999th night", () -> m.night(), 0, 1);
         b.refused("the 1000th night", () -> m.night(), 3);
+    }
+
+    /** Galleries as bits: none, the last one alone, all four. */
+    private static void allFourAsBits(Due due) {
+        Bound b = new Bound(due, BIG.replace("dig d garrison 7 7 w", "dig d garrison 7 7 wwe"));
+        CounterMine m = b.mine;
+        b.done("all four come", () -> m.night(), 15, 1);
+        b.done("all but c, at its end", () -> m.night(), 11, 2);
+        Bound last = new Bound(due, "field reach 1 error 0 pace 1 falls 0;row gg;row gs;wall 0 0;dig a miners 0 0 e;"
+                + "dig b garrison 0 0 e;dig c miners 0 0 s;dig d garrison 0 0 se");
+        last.asked("all four in a CELL", () -> last.mine.cell(0, 0, 4), 15);
+        last.asked("all four by a charge", () -> last.mine.blast(0, 0, 0), 15);
+        last.asked("none falls", () -> last.mine.drawn(0), 15);
+        last.done("none comes", () -> last.mine.night(), 0, 1);
+        last.done("none comes", () -> last.mine.night(), 0, 2);
+        last.done("all four come", () -> last.mine.night(), 15, 3);
+        last.done("the last one comes", () -> last.mine.night(), 8, 4);
+        last.asked("the last one there", () -> last.mine.cell(1, 1, 4), 8);
+        last.asked("whoBreaks, 0 and 1", () -> last.mine.whoBreaks(), 1);
+        Bound ends = new Bound(due, "field reach 1 error 0 pace 1 falls 100;row ssss;row ssss;wall 0 0;dig a miners 0 0 e;"
+                + "dig b miners 3 0 s;dig c miners 3 1 n;dig d garrison 0 1 n");
+        ends.asked("whoBreaks, the first and the last", () -> ends.mine.whoBreaks(), 3);
+        ends.asked("all fall", () -> ends.mine.drawn(0), 0);
     }
 
     /** "NONE: 1 (not in the field, rock); 2 (r)." */

@@ -526,6 +526,14 @@ public final class TextBoundsTest {
         due.fault(WALL + ";dig ab miners 0 0 e;drum ^ab", 3);
         due.fault(WALL + ";drum abcdefgh 0 0;drum ^abcdefgh", 3);
         due.sound(WALL + ";drum abcdefgh 0 0;drum abcdefgi 0 0;drum bbcdefgh 0 0;heard abcdefgi 0 0", 0);
+        // Eight letters, one of them another: another name.
+        for (int i = 0; i < 8; i++) {
+            for (char sign = 'b'; sign <= 'z'; sign++) {
+                String other = "a".repeat(i) + sign + "a".repeat(7 - i);
+                due.sound(WALL + ";drum aaaaaaaa 0 0;dig " + other + " miners 0 0 e;heard aaaaaaaa 0 0", 1);
+                due.fault(WALL + ";drum " + other + " 0 0;heard ^aaaaaaaa 0 0", 2);
+            }
+        }
         // A name of a text with a fault, or of the FIELD ahead, is not told.
         CounterMine m = Due.of(WALL + ";drum a 0 0");
         String text = WALL + ";heard a 0 0";
